@@ -48,6 +48,7 @@ public final class TurnClock {
     private final Past past;
     /** Which TIMERS a DEED has started since the latest (b) began. */
     private final boolean[] startedSince;
+    /** Whether the turn ENDS; it counts within a turn alone. */
     private boolean ended;
 
     public TurnClock() {
@@ -59,7 +60,6 @@ public final class TurnClock {
         now = new Moment();
         past = new Past();
         startedSince = new boolean[MOST_TIMERS];
-        ended = false;
     }
 
     public int room() {
@@ -163,7 +163,7 @@ public final class TurnClock {
         past.keep(now);
         now.turns++;
         now.rows = 0;
-        // An act of SORT 7 ahead of this turn must not end it.
+        // What was set by the turn before, or by an act, must not end this one.
         ended = false;
         bringEvents();
         runTimers();
@@ -350,7 +350,7 @@ public final class TurnClock {
 
     /** Part (c) of a turn. */
     private void runDaemons() {
-        for (int p = 0; p <= MOST_PRIORITY && !ended; p++) {
+        for (int p = 0; p <= MOST_PRIORITY; p++) {
             runDaemonsOf(p);
         }
     }
@@ -668,12 +668,19 @@ public final class TurnClock {
             System.arraycopy(other.rowKind, 0, rowKind, 0, MOST_ROWS);
             System.arraycopy(other.rowNumber, 0, rowNumber, 0, MOST_ROWS);
             System.arraycopy(other.counters, 0, counters, 0, COUNTERS);
-            System.arraycopy(other.shut, 0, shut, 0, MOST_DOORS);
+            copyFlags(other.shut, shut);
             System.arraycopy(other.place, 0, place, 0, MOST_WALKERS);
             System.arraycopy(other.goal, 0, goal, 0, MOST_WALKERS);
             System.arraycopy(other.turnsLeft, 0, turnsLeft, 0, MOST_TIMERS);
-            System.arraycopy(other.on, 0, on, 0, MOST_DAEMONS);
-            System.arraycopy(other.gone, 0, gone, 0, MOST_EVENTS);
+            copyFlags(other.on, on);
+            copyFlags(other.gone, gone);
+        }
+
+        /** By hand: the library's copying is for arrays of numbers. */
+        private static void copyFlags(boolean[] from, boolean[] to) {
+            for (int i = 0; i < from.length && i < to.length; i++) {
+                to[i] = from[i];
+            }
         }
     }
 

@@ -19,10 +19,14 @@ public final class TurningTest {
         daemonsInOrder();
         walkersStep();
         walkersChoose();
+        walkersNotAside();
+        allDoors();
         turnEnds();
+        turnEndsWithinAPriority();
         conditionsInATurn();
         fullRow();
         back();
+        backFromAGoal();
         backUpToEight();
         backIsClosed();
         CHECK.end();
@@ -340,6 +344,51 @@ public final class TurningTest {
         due("12d: the next", x.walks(0, 0), 4);
     }
 
+    private static void walkersNotAside() {
+        TurnClock x = new TurnClock();
+        for (int i = 0; i < 4; i++) { x.room(); }
+        x.door(2, 0);
+        x.door(0, 3);
+        x.door(3, 1);
+        x.door(2, 3);
+        x.walker(2);
+        x.walker(1);
+        x.act(x.deed(6, 0, 3));
+        x.act(x.deed(6, 1, 2));
+        x.turn();
+        due("12d: to the goal, not to a lesser room that is as far", x.walks(0, 0), 3);
+        due("12d: the first step", x.walks(1, 0), 3);
+        x.turn();
+        due("12d: to the goal, not by a lesser room", x.walks(1, 0), 2);
+    }
+
+    private static void allDoors() {
+        TurnClock x = new TurnClock();
+        for (int i = 0; i < 10; i++) { x.room(); }
+        for (int i = 0; i < 15; i++) { x.door(i % 9, i % 9 + 1); }
+        x.walker(9);
+        x.act(x.deed(6, 0, 0));
+        due("20: through all rooms", x.way(0, 9), 9);
+        for (int i = 8; i >= 0; i--) {
+            x.turn();
+            due("12d: the long way", x.walks(0, 0), i);
+        }
+        due("12d: there", x.walks(0, 1), NONE);
+    }
+
+    private static void turnEndsWithinAPriority() {
+        TurnClock x = new TurnClock();
+        x.deed(0, 0, 1);
+        x.deed(7, 0, 0);
+        x.daemon(0, 4);
+        x.daemon(1, 4);
+        x.daemon(0, 4);
+        x.daemon(0, 3);
+        for (int d = 0; d < 4; d++) { x.act(x.deed(3, d, 0)); }
+        due("12: turn()", x.turn(), 3);
+        CHECK.dueRow("12: not even those of one PRIORITY", x, DAEMON, 3, DAEMON, 0, DAEMON, 1);
+    }
+
     private static void turnEnds() {
         TurnClock x = new TurnClock();
         x.room();
@@ -480,6 +529,20 @@ public final class TurningTest {
         due("13: the same again", x.turn(), 7);
     }
 
+    private static void backFromAGoal() {
+        TurnClock x = new TurnClock();
+        x.room();
+        x.room();
+        x.door(0, 1);
+        x.walker(0);
+        x.act(x.deed(6, 0, 1));
+        x.turn();
+        due("13: in its goal", x.walks(0, 1), NONE);
+        due("13: back()", x.back(), 0);
+        due("13: its goal again", x.walks(0, 1), 1);
+        due("13: its room again", x.walks(0, 0), 0);
+    }
+
     private static void backUpToEight() {
         TurnClock x = new TurnClock();
         for (int i = 1; i <= 20; i++) {
@@ -516,6 +579,7 @@ public final class TurningTest {
             x.turn();
             due("13: one behind it", x.back(), 0);
         }
+        for (int i = 0; i < 10; i++) { x.room(); }
         x.turn();
         callsRefusedOrTelling(x);
         due("13: refused and telling calls leave it", x.told(5), 1);
@@ -540,9 +604,10 @@ public final class TurningTest {
     }
 
     private static void callsRefusedOrTelling(TurnClock x) {
+        due("2: refused", x.room(), TurnClock.ROOM);
         x.door(0, 0);
-        x.door(0, 9);
-        x.walker(9);
+        x.door(0, 10);
+        x.walker(10);
         x.deed(9, 0, 0);
         x.condition(0, 8, 0);
         x.condition(9, 0, 0);
