@@ -268,7 +268,7 @@ public final class TurnClock {
     }
 
     private static boolean isCounter(int c) {
-        return isThere(c, COUNTERS);
+        return c >= 0 && c < COUNTERS;
     }
 
     private static boolean isCounterValue(int n) {
