@@ -19,6 +19,7 @@ public final class FaceTest {
         methods(check);
         constructors(check);
         fields(check);
+        classesInside(check);
         check.end();
     }
 
@@ -75,6 +76,14 @@ public final class FaceTest {
                 isPublic == constants.contains(f.getName()) && (isPublic || Modifier.isPrivate(f.getModifiers())));
             check.holds(f + " is final, if static",
                 !Modifier.isStatic(f.getModifiers()) || Modifier.isFinal(f.getModifiers()));
+        }
+    }
+
+    private static void classesInside(Check check) {
+        for (Class<?> c : TurnClock.class.getDeclaredClasses()) {
+            int seen = c.getModifiers();
+            check.holds(c + " is static, and private or of the package",
+                Modifier.isStatic(seen) && !Modifier.isPublic(seen) && !Modifier.isProtected(seen));
         }
     }
 }
